@@ -689,7 +689,7 @@ public final class InvariantDesk {
         int wrongPlace;
         /** The token that is the NAME of what a var brings. */
         int name;
-        /** The slot that it changes or brings, NONE for a call without a NAME in front. */
+        /** The slot that it changes, NONE for a call without a NAME in front. */
         int slot = NONE;
         /** How many places the array has that it brings or changes, 0 for a number. */
         int size;
@@ -1340,7 +1340,6 @@ public final class InvariantDesk {
                     take(Tokens.NUMBER);
                     break;
                 case VAR_DONE:
-                    now.slot = now.size == 0 ? now.numbers : now.arrays;
                     scope.add(now.name, now.size);
                     break;
                 case ARGUMENTS:

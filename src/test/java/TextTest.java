@@ -183,6 +183,8 @@ public final class TextTest {
         fault("fun m(){}@}");
         faulty("fun m(){  // ", 13);
         faulty("fun", 3);
+        faulty("                              fun m", 35);
+        faulty("                              fun m(){x=12", 42);
         fault("@var x;");
         fault("fun @fun(){}");
         fault("fun m@{}");
@@ -208,12 +210,16 @@ public final class TextTest {
         fault("fun m(){x[@]=1;}");
         fault("fun m(){var @1;}");
         fault("fun m(){var x @1;}");
+        fault("fun m(){var x @y=1;}");
+        fault("fun m(){var x@}");
         fault("fun m(){var x[@y];}");
         fault("fun m(){var x[@-1];}");
         fault("fun m(){var x[3]@=1;}");
         fault("fun m(){if @1<2{}}");
         fault("fun m(){if(x@){}}");
         fault("fun m(){if((x@<1)){}}");
+        fault("fun m(){if(x @1){}}");
+        fault("fun m(){if(x @y<1){}}");
         fault("fun m(){if([x<1@){}}");
         fault("fun m(){if(x<1@<2){}}");
         fault("fun m(){if(1<2)@x=1;}");
