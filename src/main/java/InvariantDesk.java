@@ -334,12 +334,13 @@ public final class InvariantDesk {
     }
 
     public int value(int x) {
-        boolean there = machine.ran && x >= 0 && x < program.numbersAt(machine.at);
+        // before a run this is point 0, which has no slots
+        boolean there = x >= 0 && x < program.numbersAt(machine.at);
         return there ? machine.values[x] : 0;
     }
 
     public int place(int a, int i) {
-        boolean there = machine.ran && a >= 0 && a < program.arraysAt(machine.at);
+        boolean there = a >= 0 && a < program.arraysAt(machine.at);
         return there && i >= 0 && i < machine.sizes[a] ? machine.places[a * MOST_PLACES + i] : 0;
     }
 
@@ -886,13 +887,6 @@ public final class InvariantDesk {
             sizes = new int[most];
         }
 
-        void clear() {
-            count = 0;
-            blocks = 0;
-            numbers = 0;
-            arrays = 0;
-        }
-
         void openBlock() {
             starts[blocks] = count;
             blocks++;
@@ -1127,7 +1121,6 @@ public final class InvariantDesk {
                     break;
                 case FUNCTION_NAME:
                     source.openFunction(next);
-                    scope.clear();
                     scope.openBlock();
                     take(Tokens.NAME);
                     break;
@@ -2673,10 +2666,10 @@ public final class InvariantDesk {
                     meet(on, 1, 0);
                     break;
                 default:
+                    // a form that is 0 alone begins with 0, and nothing is left of it
                     ranges.findOthers(NONE, NONE);
                     boolean fromZero = ranges.othersLow == 0;
                     boolean toZero = ranges.othersHigh == 0;
-                    on.nothing = fromZero && toZero;
                     if (fromZero || toZero) {
                         meet(on, fromZero ? 1 : 0, -1);
                     }
@@ -2924,7 +2917,6 @@ public final class InvariantDesk {
         private final int[] inputs = new int[MOST_INPUTS];
         int given;
         int taken;
-        boolean ran;
         int at;
         int done;
         final int[] values = new int[MOST_NUMBERS];
@@ -2949,7 +2941,6 @@ public final class InvariantDesk {
         }
 
         void forget() {
-            ran = false;
             at = 0;
             done = 0;
             taken = 0;
@@ -2958,7 +2949,6 @@ public final class InvariantDesk {
         /** Claims are null when the run need not keep to them. */
         int go(int steps, Analysis analysis, State[] claims) {
             forget();
-            ran = true;
             trap = 0;
             int last = program.count - 1;
             arrive(analysis, claims);

@@ -155,6 +155,14 @@ public final class ClaimTest {
         inductiveIs(-1);
         claim(1, 0, 1, 0, 1, 4, 1);
         inductiveIs(0);
+        TRIAL.due("unclaim()", TRIAL.desk.unclaim(), 1);
+        inductiveIs(-1);
+        TRIAL.desk.claimNothing(2);
+        inductiveIs(1);
+        TRIAL.load("fun m(){var x=5;x=x+1;x=x+1;}");
+        inductiveIs(-1);
+        claim(1, 0, 1, 0, 1, 4, 1);
+        inductiveIs(0);
         TRIAL.desk.claimNothing(0);
         inductiveIs(-2);
         TRIAL.desk.unclaim();

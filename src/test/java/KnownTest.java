@@ -296,6 +296,14 @@ public final class KnownTest {
         TRIAL.program("fun f(){return 1+any(0,1);}fun m(){var x=any(0,3);f();x=f();x=x+1;}");
         TRIAL.known(3, "x in 0..3");
         TRIAL.known(5, "x in 1..2");
+        TRIAL.program("fun f(a){return a;}fun g(b){f(5);}fun m(){var x=1;g(2);assert(x==1);x=2;}");
+        TRIAL.known(2, "x in 1..1, b in 2..2");
+        TRIAL.known(3, "x in 1..1, b in 2..2, a in 5..5");
+        TRIAL.known(5, "x in 1..1");
+        TRIAL.program("fun f(){var a[3];var b[2];a[2]=5;b[any(0,1)]=a[0]+1;return b[1];}fun m(){var t[2];var x;t[0]=-9;x=f();x=0;}");
+        TRIAL.known(7, "x in 0..0, t[] in -9..0, a[] in 0..5, b[] in 0..0");
+        TRIAL.known(8, "x in 0..0, t[] in -9..0, a[] in 0..5, b[] in 0..6");
+        TRIAL.known(9, "x in 0..6, t[] in -9..0");
         TRIAL.program("fun f(){return 1/0;}fun m(){f();var x;}");
         TRIAL.due("alarms of the return", TRIAL.desk.point(1, 2), 2);
         TRIAL.known(2, "nothing");

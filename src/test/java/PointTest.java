@@ -8,6 +8,7 @@ public final class PointTest {
         alarms();
         somethingKnown();
         wrongInputs();
+        programsBehindOthers();
         TRIAL.finish();
     }
 
@@ -131,5 +132,23 @@ public final class PointTest {
             TRIAL.due("point(0, " + what + ")", TRIAL.desk.point(0, what), -1);
             TRIAL.due("point(1, " + what + ")", TRIAL.desk.point(1, what), -1);
         }
+    }
+
+    /** Nothing of a program stays when another one comes. */
+    private static void programsBehindOthers() {
+        TRIAL.program("fun f(a){var t[2];a=a/0;}fun m(){var x;x=any+1;f(x);x=1/any;x=1/any;}");
+        TRIAL.due("alarm", TRIAL.desk.point(4, 2), 2);
+        TRIAL.due("end()", TRIAL.load("fun m(){var x;x=1;x=2;x=3;}"), 0);
+        point(4, 0, 0, 0, 0, 0, 1);
+        TRIAL.load("fun m(){var x=any+1;}");
+        point(0, 1, 8, 1, 0, 0, 1);
+        TRIAL.load("fun m(){}");
+        point(0, 0, 0, 0, 0, 0, 1);
+        TRIAL.load("fun m(){var x=1/any;x=1/any;x=1/any;}");
+        TRIAL.load("fun m(){var x=1/0;x=1/any;x=1/any;}");
+        point(0, 1, 8, 2, 0, 0, 1);
+        point(1, 2, 18, 0, 1, 0, 0);
+        point(2, 2, 26, 0, 1, 0, 0);
+        point(3, 0, 0, 0, 0, 0, 0);
     }
 }

@@ -10,6 +10,7 @@ public final class RunTest {
         conditions();
         arrays();
         calls();
+        callsWithArrays();
         valuesBeforeAndBehind();
         tooMuch();
         TRIAL.finish();
@@ -268,6 +269,23 @@ public final class RunTest {
         }
         TRIAL.due("run(2000)", TRIAL.desk.run(2000), 0);
         ran(16, 16, 0);
+    }
+
+    private static void callsWithArrays() {
+        TRIAL.program("fun f(){var a[3];var b[2];a[2]=5;b[1]=a[2]+1;return b[1]+a[0];}fun m(){var t[2];var x;t[0]=-9;x=f();x=0;}");
+        TRIAL.due("run(8)", TRIAL.desk.run(8), 16);
+        ran(8, 8, 0);
+        places(0, -9, 0);
+        places(1, 0, 0, 5);
+        places(2, 0, 6);
+        TRIAL.due("run(9)", TRIAL.desk.run(9), 16);
+        values(6);
+        places(0, -9, 0);
+        places(1);
+        TRIAL.program("fun f(a){return a;}fun g(b){f(5);}fun m(){var x=1;g(2);assert(x==1);}");
+        TRIAL.due("run(4)", TRIAL.desk.run(4), 16);
+        values(1);
+        TRIAL.due("run(5)", TRIAL.desk.run(5), 0);
     }
 
     private static void valuesBeforeAndBehind() {

@@ -21,7 +21,9 @@ public final class TextTest {
         InvariantDesk desk = TRIAL.desk;
         TRIAL.due("NONE", InvariantDesk.NONE, -1);
         TRIAL.due("points()", desk.points(), 1);
-        TRIAL.due("point(0, 0)", desk.point(0, 0), 0);
+        for (int what = 0; what < 5; what++) {
+            TRIAL.due("point(0, " + what + ")", desk.point(0, what), 0);
+        }
         TRIAL.due("point(0, 5)", desk.point(0, 5), 1);
         TRIAL.due("point(0, 6)", desk.point(0, 6), 1);
         TRIAL.due("drop()", desk.drop(), 0);
@@ -70,7 +72,9 @@ public final class TextTest {
         TRIAL.due("ran(1)", desk.ran(1), 0);
         TRIAL.due("told(2)", desk.told(2), 0);
         TRIAL.due("end(1)", desk.end(1), -1);
+        TRIAL.load("fun m(){var x;x=1;}");
         TRIAL.due("end(0)", desk.end(0), 1);
+        TRIAL.due("points() behind a fault", desk.points(), 1);
         TRIAL.due("told(0)", desk.told(0), 0);
         TRIAL.due("told(1)", desk.told(1), 0);
         TRIAL.due("told(2)", desk.told(2), 0);
@@ -288,6 +292,9 @@ public final class TextTest {
         right("fun m(){" + times("if(1<2){", 58) + shut);
         fault("fun m(){" + times("while(2<1){}if(1<2){", 58) + "while(@2<1){}" + shut);
         fault("fun m(){" + times("if(1<2){", 57) + "if(2<1){}else{var x=-@1;}" + times("}", 58));
+        right("fun m(){var x=" + times("-1+", 90) + "-(1);}");
+        right("fun m(){assert(" + times("!1<2&&[1<2]||", 90) + "1<2);}");
+        right("fun m(){" + times("if(1<2){}else{}while(2<1){}", 90 / 3) + "}");
         right("fun m(){var x=(((1)))" + times("*(1)-(2)", 100) + ";}");
     }
 
