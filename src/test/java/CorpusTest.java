@@ -5,8 +5,8 @@ import java.nio.file.Path;
 import java.util.List;
 
 /**
- * Programs with what a second, plain implementation of the document, written apart from this one, answered for them:
- * all that is told, known, alarmed and run. The corpus is told in README.md.
+ * Programs with what a second, plain implementation of the document answered for them: all that is told, known,
+ * alarmed and run. README.md tells how the corpus is written.
  */
 public final class CorpusTest {
     private static final Trial TRIAL = new Trial("CorpusTest");
