@@ -2227,16 +2227,6 @@ public final class InvariantDesk {
             return true;
         }
 
-        /** All those SUMs are looked at, from the left to the right, up to one for which there is nothing. */
-        boolean reckonAll(int sum, int sums) {
-            for (int k = 0; k < sums; k++) {
-                if (!reckon(sum + k)) {
-                    return false;
-                }
-            }
-            return true;
-        }
-
         private void push(long least, long greatest, int slot) {
             low[height] = least;
             high[height] = greatest;
@@ -2484,7 +2474,8 @@ public final class InvariantDesk {
                     store(statement, program.arrayBase[p] + statement.slot);
                     break;
                 case Statement.CALL:
-                    holds.nothing = !ranges.reckonAll(statement.sum, statement.sums);
+                    // made tight behind each one: it can leave nothing though its SUM has a range, and those behind it
+                    // are not looked at then
                     for (int k = 0; k < statement.sums && !holds.nothing; k++) {
                         holds.addNumber();
                         set(program.numbersAt(p) + k, statement.sum + k);

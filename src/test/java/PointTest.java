@@ -7,6 +7,7 @@ public final class PointTest {
         slots();
         alarms();
         somethingKnown();
+        callsThatLeaveNothing();
         wrongInputs();
         programsBehindOthers();
         TRIAL.finish();
@@ -117,6 +118,37 @@ public final class PointTest {
         TRIAL.due("claimNothing(0)", TRIAL.desk.claimNothing(0), 1);
         TRIAL.due("point(0, 5)", TRIAL.desk.point(0, 5), 1);
         TRIAL.due("point(0, 6)", TRIAL.desk.point(0, 6), 0);
+    }
+
+    /** A call where x + y + z has a range of some ints, but no value by all that is known. */
+    private static void call(int want, int known, String sums) {
+        String big = "=any(0,2147483647);";
+        String text = "fun f(a,b,c){a=b;}fun m(){var t[4];var x" + big + "var y" + big + "var z" + big
+            + "if(x+y>=2147483640&&y+z>=2147483640&&x+z>=2147483640){f(" + sums + ");x=1/0;}}";
+        TRIAL.program(text);
+        TRIAL.due("alarms of f(" + sums + ")", TRIAL.desk.point(5, 2), want);
+        TRIAL.due("known in f(" + sums + ")", TRIAL.desk.point(6, 5), known);
+        TRIAL.due("known behind f(" + sums + ")", TRIAL.desk.point(7, 5), known);
+        TRIAL.due("alarms behind f(" + sums + ")", TRIAL.desk.point(7, 2), known == 1 ? 2 : 0);
+        TRIAL.due("work of f(" + sums + ")", TRIAL.desk.told(2), known == 1 ? 8 : 6);
+        TRIAL.due("inductive() of f(" + sums + ")", TRIAL.desk.inductive(), -1);
+    }
+
+    private static void callsThatLeaveNothing() {
+        call(1, 0, "x+y+z,1/0,1");
+        call(1, 0, "x+y+z,1,t[9]");
+        call(1, 0, "x+y+z,1/any,t[any]");
+        call(1, 0, "1,x+y+z,1/0");
+        call(1, 0, "1,2,x+y+z");
+        call(2, 0, "1/0,x+y+z,t[9]");
+        call(3, 0, "1/any(0,1),x+y+z,t[9]");
+        call(5, 0, "t[any],x+y+z,1/any");
+        call(1, 1, "x+y,y+z,x+z");
+        call(3, 0, "x+y,1/0,t[9]");
+        call(7, 1, "x+y,1/any,t[any]");
+        call(0, 1, "x,y,z");
+        // ranges are those from before the call, so that what a parameter leaves out of x still counts for the next one
+        call(5, 1, "x+2147483640,t[x],1");
     }
 
     private static void wrongInputs() {
