@@ -21,6 +21,7 @@ public final class ClaimEdgeTest {
         claimsOfNothing();
         refusedClaims();
         claimsOfRanges();
+        claimsOfEachRange();
         emptyRanges();
         refusedClaimsOfRanges();
         nothingIsClaimed();
@@ -29,6 +30,7 @@ public final class ClaimEdgeTest {
         claimsBehindTooMuch();
         asAnalysed();
         theBeginning();
+        beginningInPointZero();
         firstPointThatLeads();
         exactlyWhatIsKnownBehind();
         pointsThatCanBeNext();
@@ -396,6 +398,35 @@ public final class ClaimEdgeTest {
         EDGE.claimed(2, "t[] in -2147483647..2147483646");
     }
 
+    private static void claimsOfEachRange() {
+        EDGE.promise(10, "Likewise the range of an array: no place above c, or none below c.");
+        String arrays = "fun m(){var a[2];var b[2];var c[2];a[0]=any(-9,9);b[0]=any(-9,9);c[0]=any(-9,9);a[0]=a[1];}";
+        String[] lines = {"a[] in -9..L, b[] in -9..9, c[] in -9..9", "a[] in -9..9, b[] in -9..L, c[] in -9..9",
+            "a[] in -9..9, b[] in -9..9, c[] in -9..L"};
+        for (int a = 0; a < 3; a++) {
+            EDGE.program(arrays);
+            inductive(-1);
+            claimRange(6, a, true, 9, 0);
+            claimRange(6, a, true, 8, 1);
+            EDGE.claimed(6, lines[a].replace("L", "8"));
+            inductive(5);
+            claimRange(6, a, true, -9, 1);
+            EDGE.claimed(6, lines[a].replace("L", "-9"));
+            claimRange(6, a, false, -9, 0);
+            claimRange(6, a, false, -8, 1);
+            EDGE.claimed(6, "nothing");
+            EDGE.desk.unclaim();
+            inductive(-1);
+            claimRange(6, a, false, -9, 0);
+            claimRange(6, a, false, -8, 1);
+            EDGE.claimed(6, lines[a].replace("-9..L", "-8..9"));
+            inductive(5);
+            EDGE.desk.unclaim();
+            claimRange(6, a, true, -10, 1);
+            EDGE.claimed(6, "nothing");
+        }
+    }
+
     private static void emptyRanges() {
         EDGE.promise(10, "(With an empty range nothing is claimed.)");
         EDGE.program("fun m(){var t[3];t[1]=any(-5,9);t[1]=0;}");
@@ -536,6 +567,18 @@ public final class ClaimEdgeTest {
         inductive(-2);
     }
 
+    private static void beginningInPointZero() {
+        EDGE.terms(CLAIMS, "They are INDUCTIVE if the beginning lies in that of point 0");
+        EDGE.program("fun m(){while(any<1){if(1<2){}}}");
+        inductive(-1);
+        EDGE.due("claimNothing(1)", EDGE.desk.claimNothing(1), 1);
+        inductive(0);
+        EDGE.due("claimNothing(2)", EDGE.desk.claimNothing(2), 1);
+        EDGE.due("claimNothing(0)", EDGE.desk.claimNothing(0), 1);
+        // nothing leads to something that is not claimed, but the beginning
+        inductive(-2);
+    }
+
     private static void firstPointThatLeads() {
         EDGE.promise(13, "Whether claims are inductive: NONE if they are; -3 (asked first) when the analysis was too much; -2 if the beginning "
             + "does not lie in that of point 0; otherwise the first point of which the statement leads to something that is not claimed.");
@@ -666,6 +709,14 @@ public final class ClaimEdgeTest {
         EDGE.terms(CLAIMS, "slots that end being left out");
         EDGE.program("fun f(a){var b=a;return b;}fun m(){var x=any(0,9);if(x<5){var y=x;var t[2];t[0]=y;}x=f(x);while(x<9){var z=x;x=z+1;}x=x;}");
         inductive(-1);
+        // an if and a while as last statements: where COND fails, the run goes on without the slots of the BLOCK
+        String[] ends = {"if(x<5){var y=5;var t[2];t[0]=6;if(x<3){x=x;}}", "if(x<5){var y=5;var t[2];t[0]=6;while(x<3){x=x+1;}}",
+            "while(x<5){var y=5;var t[2];t[0]=6;x=x+1;if(x<3){}}", "while(x<5){var y=5;var t[2];t[0]=6;x=x+1;while(x<3){x=x+1;}}",
+            "f(7);", "if(x<5){f(x);}else{f(7);}"};
+        for (String end : ends) {
+            EDGE.program("fun f(a){var y=5;var t[2];t[0]=6;if(a<3){}}fun m(){var x=any(0,9);" + end + "x=x;}");
+            EDGE.due("inductive() of " + end, EDGE.desk.inductive(), -1);
+        }
         EDGE.program("fun m(){var x=any(0,9);if(x<5){var y=x;y=7;}var w=x;w=w;}");
         inductive(-1);
         claim(3, 1, 1, 1, 1, 3, 1);

@@ -102,7 +102,8 @@ public final class CondEdgeTest {
     }
 
     private static void lessAndNotLess() {
-        EDGE.terms(COND, "f <= -1 holds, -f <= 0 fails");
+        EDGE.terms(COND, "the form f is that of the first one with that of the second one, turned round, behind it; f <= -1 holds, -f <= 0 "
+            + "fails");
         String xy = "var x=any(0,9);var y=any(0,5);";
         split(xy, "x<y", "x in 0..4, y in 1..5, x - y <= -1", "x in 0..9, y in 0..5, -x + y <= 0");
         split(xy, "y<x", "x in 1..9, y in 0..5, -x + y <= -1", "x in 0..5, y in 0..5, x - y <= 0");
@@ -110,6 +111,15 @@ public final class CondEdgeTest {
         split(xy, "x+y<0", "nothing", "x in 0..9, y in 0..5");
         split(xy, "x+y<14", "x in 0..9, y in 0..5, x + y <= 13", "x in 9..9, y in 5..5");
         split(xy, "x+y<15", "x in 0..9, y in 0..5", "nothing");
+        split(xy, "x-3<y-3", "x in 0..4, y in 1..5, x - y <= -1", "x in 0..9, y in 0..5, -x + y <= 0");
+        split(xy, "-y<-x", "x in 0..4, y in 1..5, x - y <= -1", "x in 0..9, y in 0..5, -x + y <= 0");
+        split(xy, "3-(y-x)<3", "x in 0..4, y in 1..5, x - y <= -1", "x in 0..9, y in 0..5, -x + y <= 0");
+        split(xy, "0<y-(x-(0))", "x in 0..4, y in 1..5, x - y <= -1", "x in 0..9, y in 0..5, -x + y <= 0");
+        // what is bound to x is bounded with it, where it holds and where it fails
+        split("var y=any(0,9);var x=y+1;", "x<5", "y in 0..3, x in 1..4, y - x <= -1, -y + x <= 1", "y in 4..9, x in 5..10, y - x <= -1, "
+            + "-y + x <= 1");
+        split("var y=any(0,9);var x=y+1;var z=any(0,9);", "x<5&&z<5", "y in 0..3, x in 1..4, z in 0..4, y - x <= -1, -y + x <= 1",
+            "y in 0..9, x in 1..10, z in 0..9, y - x <= -1, -y + x <= 1, -y - z <= -4, -x - z <= -5");
     }
 
     private static void rangesWithoutAValue() {

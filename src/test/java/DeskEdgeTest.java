@@ -25,6 +25,7 @@ public final class DeskEdgeTest {
         answersOfEnd();
         onlyTheEnd();
         whatStaysAndWhatGoes();
+        nothingOfTheProgramBefore();
         told();
         toldByTheLatestEnd();
         points();
@@ -168,6 +169,11 @@ public final class DeskEdgeTest {
         EDGE.due("points()", EDGE.desk.points(), 2);
         EDGE.due("point(0, 1)", EDGE.desk.point(0, 1), 16388);
         EDGE.due("feed() behind end()", EDGE.desk.feed(-1, -1, -1, -1, -1), 20);
+        EDGE.refusedWhenFull("feed() of a full desk", desk -> desk.feed(-1, -1, -1, -1, -1), desk -> {
+            for (int k = 2; k <= 820; k++) {
+                EDGE.due("feed() " + k, desk.feed(0, 0, 0, 0, 0), 20 * k);
+            }
+        });
         EDGE.freshForManyCalls();
         for (int k = 1; k <= 820; k++) {
             EDGE.due("feed() " + k, EDGE.desk.feed(BLANKS, BLANKS, BLANKS, BLANKS, k < 820 ? BLANKS : 0x20202024), 20 * k);
@@ -278,6 +284,28 @@ public final class DeskEdgeTest {
         EDGE.desk.load("fun m(){var x=any;x=x;}");
         EDGE.due("run(1)", EDGE.desk.run(1), 16);
         EDGE.due("value(0), the input having stayed", EDGE.desk.value(0), 8);
+    }
+
+    private static void nothingOfTheProgramBefore() {
+        EDGE.promise(3, "The first n bytes are a text, all bytes are gone: 0 it is a program, which is analysed");
+        String[] before = {"fun f(a){if(1<2){y=1;}}fun m(){var x=1;while(1<2){f(x);}}", "fun f(){var t[0];}fun m(){if(1<2){}else{f();}}",
+            "fun f(a){var t[2];a=a/0;}fun m(){var x;x=any+1;f(x);x=1/any;x=1/any;}", "fun f(){if(1<2){}if(1<2){}}fun m(){var t[2];var u[2];f();}", "fun m(){if(1<2){while(1<2){x", Edge.tooMuch()};
+        for (String text : before) {
+            EDGE.fresh();
+            EDGE.desk.load(text);
+            EDGE.due("end() behind " + text, EDGE.desk.load("fun m(){var x=any(0,9);if(x<5){x=7;}x=x;}"), 0);
+            EDGE.due("points()", EDGE.desk.points(), 5);
+            EDGE.known(4, "all");
+            EDGE.known(3, "x in 5..9");
+            EDGE.due("inductive()", EDGE.desk.inductive(), -1);
+            EDGE.due("run(2000)", EDGE.desk.run(2000), 0);
+            EDGE.due("ran(1)", EDGE.desk.ran(1), 4);
+            for (int p = 0; p < 5; p++) {
+                EDGE.due("point(" + p + ", 2)", EDGE.desk.point(p, 2), 0);
+                EDGE.due("point(" + p + ", 3)", EDGE.desk.point(p, 3), p == 0 || p == 4 ? 0 : 1);
+                EDGE.due("point(" + p + ", 4)", EDGE.desk.point(p, 4), 0);
+            }
+        }
     }
 
     private static void told() {

@@ -185,11 +185,22 @@ final class Edge {
         refused(call, refusal, want, Edge::fill);
     }
 
-    /** A call that is refused: all answers behind it are those of a twin for which it was not made. */
     void refused(String call, ToLongFunction<Desk> refusal, long want, Consumer<Desk> before) {
+        fresh();
+        compareWithTwin(call, refusal, want, before);
+    }
+
+    /** A call that is refused by a desk that holds something of all, and is full by more than 512 calls. */
+    void refusedWhenFull(String call, ToLongFunction<Desk> refusal, Consumer<Desk> filling) {
+        freshForManyCalls();
+        Consumer<Desk> before = Edge::fill;
+        compareWithTwin(call, refusal, -1, before.andThen(filling));
+    }
+
+    /** All answers behind the call must be those of a twin for which it was not made. */
+    private void compareWithTwin(String call, ToLongFunction<Desk> refusal, long want, Consumer<Desk> before) {
         Desk twin = new Desk();
         before.accept(twin);
-        fresh();
         before.accept(desk);
         due(call, refusal.applyAsLong(desk), want);
         due("all behind " + call, desk.everything().toString(), twin.everything().toString());

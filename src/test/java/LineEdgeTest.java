@@ -109,6 +109,10 @@ public final class LineEdgeTest {
         EDGE.program("fun m(){var b[1];var x=1;var a[64];var y=x;a[63]=any;b[0]=-5;x=x;}");
         EDGE.known(4, "x in 1..1, y in 1..1, b[] in 0..0, a[] in 0..0");
         EDGE.known(6, "x in 1..1, y in 1..1, b[] in -5..-5, a[] in -2147483648..2147483647");
+        // twelve numbers, the last two of them parameters, beside the names of arrays
+        EDGE.program("fun g(k,l){k=l;}fun m(){var t[1];var u[1];var a;var b;var c;var d;var e;var f;var h;var i;var j;var w;g(3,4);}");
+        EDGE.known(13, "a in 0..0, b in 0..0, c in 0..0, d in 0..0, e in 0..0, f in 0..0, h in 0..0, i in 0..0, j in 0..0, w in 0..0, "
+            + "k in 3..3, l in 4..4, t[] in 0..0, u[] in 0..0");
         EDGE.program("fun m(){var a[1];var b[1];var c[1];var d[1];var e[1];var f[1];f[0]=1;f[0]=2;}");
         EDGE.known(7, "a[] in 0..0, b[] in 0..0, c[] in 0..0, d[] in 0..0, e[] in 0..0, f[] in 1..1");
     }

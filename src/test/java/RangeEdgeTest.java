@@ -9,6 +9,7 @@ public final class RangeEdgeTest {
     private static final String INTS = "-2147483648..2147483647";
 
     public static void main(String[] args) {
+        nothingOrAnOctagonAndRanges();
         greatestBounds();
         tightBounds();
         withoutAValue();
@@ -33,8 +34,11 @@ public final class RangeEdgeTest {
         otherFreeParts();
         newNumbers();
         parameters();
+        parametersThatLeaveNothing();
         returns();
         stores();
+        sixArrays();
+        arraysThatComeAgain();
         EDGE.finish();
     }
 
@@ -65,6 +69,17 @@ public final class RangeEdgeTest {
         EDGE.due("bound(false, " + p + ", " + x + ", " + s + ", " + y + ", " + t + ")", EDGE.desk.bound(false, p, x, s, y, t), want);
     }
 
+    private static void nothingOrAnOctagonAndRanges() {
+        EDGE.terms(KNOWN, "WHAT IS KNOWN at a point is NOTHING (no run comes there), or an OCTAGON, and a RANGE for each array, in which all "
+            + "its places lie.");
+        behind("assert(2<1);", "nothing");
+        behind("", "all");
+        behind("var x;", "x in 0..0");
+        behind("var t[2];", "t[] in 0..0");
+        behind("var t[2];t[0]=5;t[1]=-3;", "t[] in -3..5");
+        behind("var x=any(1,2);var t[2];t[0]=5;", "x in 1..2, t[] in 0..5");
+    }
+
     private static void greatestBounds() {
         EDGE.terms(KNOWN, "An OCTAGON is a set of values of the numbers (all ints), told by BOUNDS: for each slot x the greatest values of "
             + "x and of -x, for each two the greatest ones of x + y, x - y, -x + y and -x - y.");
@@ -92,6 +107,26 @@ public final class RangeEdgeTest {
         behind(box + "assert(x-y==1);assert(x+y<=8);", "x in 1..4, y in 0..3, x - y <= 1, -x + y <= -1");
         behind(box + "var z=any(0,10);assert(x<y);assert(y<z);", "x in 0..8, y in 1..9, z in 2..10, x - y <= -1, x - z <= -2, "
             + "y - z <= -1");
+        behind(box + "assert(x==y);assert(x+y>=7);", "x in 4..10, y in 4..10, x - y <= 0, -x + y <= 0");
+        // each of the four is bounded by the others, whichever of them were compared last
+        String four = "var w=any(0,10);var x=any(0,10);var y=any(0,10);var z=any(0,10);";
+        String chain = "w in 0..7, x in 1..8, y in 2..9, z in 3..10, w - x <= -1, w - y <= -2, w - z <= -3, x - y <= -1, x - z <= -2, "
+            + "y - z <= -1";
+        behind(four + "assert(w<x);assert(y<z);assert(x<y);", chain);
+        behind(four + "assert(x<y);assert(y<z);assert(w<x);", chain);
+        behind(four + "assert(w<x);assert(x<y);assert(y<z);", chain);
+        behind(four + "assert(w<=x);assert(y<=z);assert(x<=y);", "w in 0..10, x in 0..10, y in 0..10, z in 0..10, w - x <= 0, w - y <= 0, "
+            + "w - z <= 0, x - y <= 0, x - z <= 0, y - z <= 0");
+        behind(four + "assert(w+x<=10);assert(y>=z);assert(x>=y);", "w in 0..10, x in 0..10, y in 0..10, z in 0..10, w + x <= 10, "
+            + "w + y <= 10, w + z <= 10, -x + y <= 0, -x + z <= 0, -y + z <= 0");
+        EDGE.program("fun m(){" + box + "assert(x<5);x=x;}");
+        bound(3, 0, 1, 1, 1, 14);
+        bound(3, 0, 1, 1, -1, 4);
+        bound(3, 0, -1, 1, 1, 10);
+        EDGE.program("fun m(){" + box + "assert(y<5);x=x;}");
+        bound(3, 0, 1, 1, 1, 14);
+        bound(3, 0, 1, 1, -1, 10);
+        bound(3, 0, -1, 1, 1, 4);
         behind("var x=any;var y=any;assert(x<y);", "x in -2147483648..2147483646, y in -2147483647..2147483647, x - y <= -1");
     }
 
@@ -102,6 +137,22 @@ public final class RangeEdgeTest {
         behind(box + "assert(x==y);assert(x+y==2);", "x in 1..1, y in 1..1");
         behind(box + "assert(x==y);assert(x+y==19);", "nothing");
         behind(box + "assert(x==y);assert(x+y==20);", "x in 10..10, y in 10..10");
+        behind("var a;var b;" + box + "assert(x==y);assert(x+y==1);", "nothing");
+        behind("var a;var b;" + box + "assert(x==y);assert(x+y==2);", "a in 0..0, b in 0..0, x in 1..1, y in 1..1");
+        behind("var a;var b;var c;var d;var e;var f;var g;var h;var i;var j;" + box + "assert(x==y);assert(x+y==1);", "nothing");
+        // no two of these bounds leave nothing, but all of them do: by x + y + z each is 7 at most
+        String three = "var x=any(0,2147483647);var y=any(0,2147483647);var z=any(0,2147483647);"
+            + "assert(x+y>=2147483640&&y+z>=2147483640&&x+z>=2147483640);";
+        behind(three + "var w=x+y+z;", "nothing");
+        behind(three + "x=x+y+z;", "nothing");
+        range(three, "x+y+z", 1, "2147483640..2147483647");
+        behind(three + "if(any<1){var w=x+y+z;}var v=1;", "x in 0..2147483647, y in 0..2147483647, z in 0..2147483647, v in 1..1, "
+            + "-x - y <= -2147483640, -x - z <= -2147483640, -y - z <= -2147483640");
+        // y - x is 1, but no more than 2 less 1, or 1 less 1
+        String two = "var x=any(-5,5);var y=x+1;var z=any(-5,5);var w=z+1;";
+        behind(two + "assert(x-y+z-w>=-2);", "x in -5..5, y in -4..6, z in -5..5, w in -4..6, x - y <= -1, -x + y <= 1, z - w <= -1, "
+            + "-z + w <= 1");
+        behind(two + "assert(x-y+z-w>=-1);", "nothing");
         behind(box + "assert(x-y==10);", "x in 10..10, y in 0..0");
         behind(box + "assert(x-y==11);", "nothing");
         behind(box + "assert(x<y);assert(y<=x);", "nothing");
@@ -249,6 +300,14 @@ public final class RangeEdgeTest {
         range("var x=any(1,2147483647);var y=2147483647;", "x+y", 1, "nothing");
         range("var x=any(-2147483647,0);var y=x;", "y-x", 0, "0..0");
         range("var t[2];t[0]=5;", "t[0]-t[0]", 0, "-5..5");
+        // what is reckoned from a NAME is no NAME any more
+        for (String sum : new String[] {"x*1+y", "x/1+y", "x%10+y", "--x+y", "x+y*1", "x+y/1", "x+y%10", "x+ --y"}) {
+            range(nine, sum, 0, "0..18");
+        }
+        for (String sum : new String[] {"x-x*1", "x-x/1", "x-x%10", "x- --x", "x/1-x", "x%10-x"}) {
+            range(nine, sum, 0, "-9..9");
+        }
+        range(nine, "(x-y)+y", 0, "-9..18");
     }
 
     private static void divisions() {
@@ -395,6 +454,9 @@ public final class RangeEdgeTest {
         behind(y + "1+-y;", minus);
         behind(y + "-(-(1-y));", minus);
         behind(y + "---y+1;", minus);
+        behind(y + "1-(2-(3-(1-y)));", "y in 0..5, x in 1..6, y - x <= -1, -y + x <= 1");
+        behind(y + "2-(4-(3-y));", minus);
+        behind(y + "4-(2-(1-(2-(0-y))));", "y in 0..5, x in -4..1, y + x <= 1, -y - x <= -1");
         // one part itself: a product, a quotient, a rest, a place, so that there is no NAME
         behind(y + "y*1;", "y in 0..5, x in 0..5");
         behind(y + "1*y;", "y in 0..5, x in 0..5");
@@ -404,6 +466,17 @@ public final class RangeEdgeTest {
         behind(y + "y%9;", "y in 0..5, x in 0..5");
         behind("var t[1];t[0]=3;" + y + "t[0]+y;", "y in 0..5, x in 3..8, y - x <= -3, -y + x <= 3, t[] in 3..3");
         behind("var t[9];" + y + "t[y]+1;", "y in 0..5, x in 1..1, t[] in 0..0");
+        // a part that is one itself, behind a NAME and turned round
+        String less = "y in 0..5, x in -2..5, y - x <= 2, -y + x <= 0";
+        behind(y + "y-any(0,2)*1;", less);
+        behind(y + "y-1*any(0,2);", less);
+        behind(y + "y-any(0,2)/1;", less);
+        behind(y + "y-(any(0,2)*1);", less);
+        behind(y + "y+ -any(0,2)*1;", less);
+        behind(y + "-(any(0,2)*1-y);", less);
+        behind("var t[1];t[0]=any(0,2);" + y + "y-t[0];", less + ", t[] in 0..2");
+        behind("var t[1];t[0]=any(0,2);" + y + "-t[0]+y;", less + ", t[] in 0..2");
+        behind("var t[1];t[0]=any(0,2);" + y + "y-(t[0]);", less + ", t[] in 0..2");
     }
 
     private static void freeParts() {
@@ -440,6 +513,20 @@ public final class RangeEdgeTest {
         // w is twice there, so x and y are not alone for any other part
         bound(7, 6, 1, 0, -1, 11);
         bound(7, 6, -1, 0, 1, 0);
+        EDGE.terms(FORM, "the RANGE of some parts is the sum of theirs, turned round for -");
+        EDGE.program("fun m(){var x=any(0,9);var y=any(2,3);var z=any(-1,4);var w=x-y-z;var v=x-(y+z*1)+5;v=0;}");
+        bound(4, 3, 1, 0, -1, -1);
+        bound(4, 3, -1, 0, 1, 7);
+        bound(5, 4, 1, 0, -1, 4);
+        bound(5, 4, -1, 0, 1, 2);
+        EDGE.terms(FORM, "(Ranges of parts are those told above, that of the SUM too; of free ones the bounds.)");
+        // the product has 2147483647 at most as a part, and the SUM too, but not what comes to them
+        EDGE.program("fun m(){var x=any(0,9);var y=any(0,3)*2147483647+x;y=0;}");
+        EDGE.due("alarms", EDGE.desk.point(1, 2), 1);
+        bound(2, 1, 1, 1, 1, 2147483647L);
+        bound(2, 1, 1, 0, -1, 2147483647L);
+        bound(2, 1, -1, 0, 1, 0);
+        EDGE.terms(FORM, "but of two free ones alone, with any NUMBERs (with + or -), it is what the tight bounds say");
         EDGE.program("fun m(){" + vars + "assert(x+y+w<=9);assert(1<2);}");
         EDGE.known(4, "x in 0..9, y in 0..9, w in 0..0, x + y <= 9, -x - y <= -9");
         EDGE.program("fun m(){" + vars + "assert(x+y+w+2-1<=9);assert(1<2);}");
@@ -466,6 +553,24 @@ public final class RangeEdgeTest {
         behind(vars + "x=-x;", "x in -10..0, y in 0..10, x + y <= 0, -x - y <= 0");
         behind(vars + "x=3-x;", "x in -7..3, y in 0..10, x + y <= 3, -x - y <= -3");
         behind(vars + "x=any(-1,2)-x;", "x in -11..2, y in 0..10, x + y <= 2, -x - y <= 1");
+        behind(vars + "y=-y;", "x in 0..10, y in -10..0, x + y <= 0, -x - y <= 0");
+        behind(vars + "y=3-y;", "x in 0..10, y in -7..3, x + y <= 3, -x - y <= -3");
+        String three = "var a=any(0,3);var x=a+1;var y=x+2;";
+        behind(three + "x=-x;", "a in 0..3, x in -4..-1, y in 3..6, a + x <= -1, -a - x <= 1, a - y <= -3, -a + y <= 3, x + y <= 2, "
+            + "-x - y <= -2");
+        behind(three + "y=-y;", "a in 0..3, x in 1..4, y in -6..-3, a - x <= -1, -a + x <= 1, a + y <= -3, -a - y <= 3, x + y <= -2, "
+            + "-x - y <= 2");
+        behind(three + "a=-a;", "a in -3..0, x in 1..4, y in 3..6, a + x <= 1, -a - x <= -1, a + y <= 3, -a - y <= -3, x - y <= -2, "
+            + "-x + y <= 2");
+        // among twelve numbers
+        StringBuilder eleven = new StringBuilder("var a=any(0,3);");
+        StringBuilder line = new StringBuilder("a in 0..3");
+        for (int k = 0; k < 9; k++) {
+            eleven.append("var n").append(k).append("=").append(k).append(";");
+            line.append(", n").append(k).append(" in ").append(k).append("..").append(k);
+        }
+        behind(eleven + "var x=a+1;var y=x+2;x=-x;", line + ", x in -4..-1, y in 3..6, a + x <= -1, -a - x <= 1, a - y <= -3, -a + y <= 3, "
+            + "x + y <= 2, -x - y <= -2");
         behind(vars + "x=5;", "x in 5..5, y in 0..10");
         behind(vars + "x=any;", "x in " + INTS + ", y in 0..10");
         behind(vars + "x=x*1;", "x in 0..10, y in 0..10");
@@ -509,6 +614,21 @@ public final class RangeEdgeTest {
         EDGE.known(3, "x in 0..5, x in 1..6, x - x <= -1, -x + x <= 1");
     }
 
+    /** A parameter leaves nothing though its SUM has a range, and what stands behind it is not looked at then. */
+    private static void parametersThatLeaveNothing() {
+        EDGE.terms(SET, "parameters as vars, one after the other, all SUMs by what was known before");
+        String three = "fun f(a,b){a=b;}fun m(){var t[2];var x=any(0,2147483647);var y=any(0,2147483647);var z=any(0,2147483647);"
+            + "assert(x+y>=2147483640&&y+z>=2147483640&&x+z>=2147483640);f(";
+        String[] sums = {"x+y+z,1/0", "x+y+z,t[2]", "1/any,x+y+z", "1/0,x+y+z", "x+y,t[any]"};
+        int[] alarms = {1, 1, 3, 2, 5};
+        for (int k = 0; k < sums.length; k++) {
+            EDGE.program(three + sums[k] + ");t[0]=1;}");
+            EDGE.due("alarms of f(" + sums[k] + ")", EDGE.desk.point(5, 2), alarms[k]);
+            EDGE.due("known in f(" + sums[k] + ")", EDGE.desk.point(6, 5), k == 4 ? 1 : 0);
+            EDGE.due("known behind f(" + sums[k] + ")", EDGE.desk.point(7, 5), k == 4 ? 1 : 0);
+        }
+    }
+
     private static void parameters() {
         EDGE.terms(SET, "parameters as vars, one after the other, all SUMs by what was known before");
         EDGE.program("fun f(a,b){a=b;}fun m(){var x=any(0,5);f(x+1,x+1);}");
@@ -532,6 +652,10 @@ public final class RangeEdgeTest {
         EDGE.known(3, "x in 1..6");
         EDGE.program("fun f(a){return a+1;}fun m(){var x=any(0,5);f(x);x=x;}");
         EDGE.known(3, "x in 0..5");
+        EDGE.program("fun f(a){return a;}fun g(p,q){f(5);q=f(6);p=p;}fun m(){var x=1;var y=2;g(3,4);x=x;}");
+        EDGE.known(5, "x in 1..1, y in 2..2, p in 3..3, q in 4..4");
+        EDGE.known(7, "x in 1..1, y in 2..2, p in 3..3, q in 6..6");
+        EDGE.known(8, "x in 1..1, y in 2..2");
         EDGE.program("fun f(a){return 1/a;}fun m(){var x=any(0,5);f(x);x=x;}");
         EDGE.due("alarms of the return", EDGE.desk.point(2, 2), 2);
         EDGE.known(3, "x in 0..5");
@@ -540,6 +664,30 @@ public final class RangeEdgeTest {
         EDGE.known(3, "nothing");
         EDGE.program("fun f(a){return 1/a;}fun m(){var x;x=f(x);x=x;}");
         EDGE.known(3, "nothing");
+    }
+
+    private static void sixArrays() {
+        EDGE.terms(KNOWN, "the JOIN of two is the least octagon, with the least ranges, in which both lie");
+        String six = "var a[1];var b[1];var c[1];var d[2];var e[2];var f[2];";
+        behind(six + "a[0]=-1;b[0]=-2;c[0]=3;d[1]=-4;e[1]=5;f[1]=-6;f[0]=7;", "a[] in -1..-1, b[] in -2..-2, c[] in 3..3, d[] in -4..0, "
+            + "e[] in 0..5, f[] in -6..7");
+        behind(six + "if(any<1){a[0]=-1;c[0]=-3;e[0]=-5;}else{b[0]=2;d[0]=4;f[0]=6;}", "a[] in -1..0, b[] in 0..2, c[] in -3..0, d[] in 0..4, "
+            + "e[] in -5..0, f[] in 0..6");
+        behind(six + "if(any<1){b[0]=-2;d[0]=-4;f[0]=-6;}else{a[0]=1;c[0]=3;e[0]=5;}", "a[] in 0..1, b[] in -2..0, c[] in 0..3, d[] in -4..0, "
+            + "e[] in 0..5, f[] in -6..0");
+        range(six.replace("var f[2];", "") + "e[0]=7;d[0]=8;", "e[0]-d[0]", 0, "-8..7");
+    }
+
+    private static void arraysThatComeAgain() {
+        EDGE.terms("VALUES are ints", "all places of an array with 0, each time");
+        EDGE.program("fun f(){var u[2];var v[2];u[0]=5;v[0]=-5;}fun m(){var i;while(i<2){var t[2];t[0]=i+3;t[1]=-4;i=i+1;}f();f();i=i;}");
+        EDGE.known(3, "i in 0..1, t[] in 0..0");
+        EDGE.known(5, "i in 0..1, t[] in -4..4");
+        EDGE.known(8, "i in 2..2, u[] in 0..0");
+        EDGE.known(9, "i in 2..2, u[] in 0..0, v[] in 0..0");
+        EDGE.known(13, "i in 2..2, u[] in 0..0");
+        EDGE.known(14, "i in 2..2, u[] in 0..0, v[] in 0..0");
+        EDGE.known(15, "i in 2..2, u[] in 0..5, v[] in 0..0");
     }
 
     private static void stores() {

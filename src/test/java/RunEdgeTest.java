@@ -15,10 +15,14 @@ public final class RunEdgeTest {
         numbersOfPoints();
         turnsOfAWhile();
         stepsOfStatements();
+        condsAndCallsByThemselves();
+        endsOfBlocks();
         fromTheLeft();
         resultsThatAreNoInts();
         divisions();
         placesOfArrays();
+        fullOfArrays();
+        arraysOfFunctions();
         placesLookedAtBehindTheFirst();
         inputsOfAny();
         limitsOfAny();
@@ -186,6 +190,44 @@ public final class RunEdgeTest {
         values(3);
     }
 
+    private static void condsAndCallsByThemselves() {
+        EDGE.terms(RUN, "a statement is carried out (of if and while, each time, the COND; of a call what it puts to parameters");
+        EDGE.program("fun f(a){return any;}fun m(){var x;if(any==1){x=any;}while(any==3){x=any;}f(any);x=f(any);assert(any==9);x=any;}");
+        for (int k = 1; k <= 10; k++) {
+            EDGE.desk.input(k);
+        }
+        int[] points = {0, 1, 2, 3, 4, 3, 5, 6, 7, 8, 9};
+        int[] taken = {0, 0, 1, 2, 3, 4, 5, 6, 7, 8, 9};
+        for (int k = 0; k < points.length; k++) {
+            run(k, 16, points[k], k, taken[k]);
+        }
+        EDGE.due("run(2000), any being 10 in the assert", EDGE.desk.run(2000), 8);
+        ran(8, 9, 11, 10);
+    }
+
+    /** The ways of a run from the ends of BLOCKs, each statement being come to by itself. */
+    private static void way(String text, int... points) {
+        EDGE.program(text);
+        for (int k = 0; k < points.length; k++) {
+            run(k, k == points.length - 1 ? 0 : 16, points[k], k, 0);
+        }
+        EDGE.due("inductive() of " + text, EDGE.desk.inductive(), -1);
+    }
+
+    private static void endsOfBlocks() {
+        EDGE.terms(RUN, "the end of a BLOCK is no step");
+        way("fun m(){if(1<2){if(2<1){}}else{if(1<2){}}}", 0, 1, 3);
+        way("fun m(){if(2<1){if(2<1){}}else{if(1<2){}if(1<2){}}}", 0, 2, 3, 4);
+        way("fun m(){if(1<2){if(1<2){}if(2<1){if(1<2){}}}else{if(1<2){}}if(1<2){}}", 0, 1, 2, 5, 6);
+        way("fun m(){var i;while(i<1){i=1;if(2<1){}}}", 0, 1, 2, 3, 1, 4);
+        way("fun m(){var i;while(i<1){if(1<2){i=1;if(i<1){i=2;}}}}", 0, 1, 2, 3, 4, 1, 6);
+        way("fun m(){var i;while(i<1){i=1;if(2<1){i=2;}else{i=1;i=1;}}i=3;}", 0, 1, 2, 3, 5, 6, 1, 7, 8);
+        way("fun m(){var i;while(i<1){i=1;while(2<1){}}i=3;}", 0, 1, 2, 3, 1, 4, 5);
+        way("fun f(){if(2<1){}}fun m(){var i;while(i<1){i=1;f();}f();}", 0, 1, 2, 3, 4, 1, 5, 6, 7);
+        way("fun e(){}fun f(){if(1<2){e();}}fun m(){f();if(2<1){}else{f();}}", 0, 1, 2, 3, 4, 5, 6, 7);
+        way("fun m(){while(2<1){}while(2<1){if(1<2){}}if(2<1){if(1<2){}}}", 0, 1, 3, 5);
+    }
+
     private static void order(String statement, int trap, int taken) {
         EDGE.program("fun m(){var x=2147483647;var t[2];" + statement + "}");
         EDGE.desk.input(1);
@@ -209,6 +251,8 @@ public final class RunEdgeTest {
         order("t[any]=1/any;", 2, 2);
         order("if(any<1/0&&any<1){}", 2, 1);
         order("assert(t[2]<1/0);", 4, 0);
+        EDGE.terms("SUMS are none", "A SUM is TERMs with + or - between, from the left on; a TERM is FACTORs with *, / or % between, from "
+            + "the left on");
         sum("x-y-1", 7, 2, 4);
         sum("x-(y-1)", 7, 2, 6);
         sum("x/y/2", 12, 3, 2);
@@ -217,6 +261,7 @@ public final class RunEdgeTest {
         sum("x+y*2", 1, 2, 5);
         sum("-x*y", 3, 4, -12);
         sum("x-y+x*10", 3, 4, 29);
+        EDGE.terms(RUN, "What stands in it is reckoned from the left to the right");
         EDGE.program("fun m(){var x=any*100+any*10+any;x=x;}");
         EDGE.desk.input(1);
         EDGE.desk.input(2);
@@ -325,6 +370,48 @@ public final class RunEdgeTest {
         EDGE.program("fun m(){var t[2];var u[9];var x=t[any];}");
         EDGE.desk.input(2);
         run(2000, 4, 2, 3, 1);
+    }
+
+    private static void fullOfArrays() {
+        EDGE.terms(RUN, "a place that an array has not is trap 4");
+        String[] names = {"a", "b", "c", "d", "e", "f"};
+        StringBuilder text = new StringBuilder("fun m(){");
+        for (String name : names) {
+            text.append("var ").append(name).append("[64];");
+        }
+        for (int a = 0; a < 6; a++) {
+            text.append(names[a]).append("[0]=").append(10 + a).append(";").append(names[a]).append("[63]=").append(20 + a).append(";");
+        }
+        text.append("var s=((((a[0]*2+b[0])*2+c[0])*2+d[0])*2+e[0])*2+f[0];s=(((a[63]+b[63])*9+c[63])*9+d[63])*9+e[63]*9+f[63];s=s;}");
+        EDGE.program(text.toString());
+        EDGE.due("run(19)", EDGE.desk.run(19), 16);
+        EDGE.due("value(0)", EDGE.desk.value(0), 10 * 32 + 11 * 16 + 12 * 8 + 13 * 4 + 14 * 2 + 15);
+        EDGE.due("run(20)", EDGE.desk.run(20), 16);
+        EDGE.due("value(0)", EDGE.desk.value(0), (41 * 81 + 22 * 9 + 23) * 9 + 24 * 9 + 25);
+        for (int a = 0; a < 6; a++) {
+            EDGE.due("place(" + a + ", 0)", EDGE.desk.place(a, 0), 10 + a);
+            EDGE.due("place(" + a + ", 1)", EDGE.desk.place(a, 1), 0);
+            EDGE.due("place(" + a + ", 62)", EDGE.desk.place(a, 62), 0);
+            EDGE.due("place(" + a + ", 63)", EDGE.desk.place(a, 63), 20 + a);
+            EDGE.due("place(" + a + ", 64)", EDGE.desk.place(a, 64), 0);
+        }
+        EDGE.due("outside()", EDGE.desk.outside(), 0);
+    }
+
+    private static void arraysOfFunctions() {
+        EDGE.terms(VALUES, "arrays have slots of their own likewise");
+        EDGE.program("fun f(p){var u[2];var v[2];u[0]=p+1;v[1]=u[0]*10;p=v[1]+u[0];return p;}"
+            + "fun m(){var t[2];var s[3];t[1]=5;s[2]=6;var x;x=f(s[2]+t[1]);x=x;}");
+        EDGE.due("run(11)", EDGE.desk.run(11), 16);
+        values(0, 132);
+        EDGE.due("place(0, 1)", EDGE.desk.place(0, 1), 5);
+        EDGE.due("place(1, 2)", EDGE.desk.place(1, 2), 6);
+        EDGE.due("place(2, 0)", EDGE.desk.place(2, 0), 12);
+        EDGE.due("place(3, 1)", EDGE.desk.place(3, 1), 120);
+        EDGE.known(11, "x in 0..0, p in 0..132, t[] in 0..5, s[] in 0..6, u[] in 0..12, v[] in 0..120");
+        EDGE.due("run(12)", EDGE.desk.run(12), 16);
+        values(132);
+        EDGE.due("outside()", EDGE.desk.outside(), 0);
     }
 
     private static void placesLookedAtBehindTheFirst() {
@@ -452,6 +539,12 @@ public final class RunEdgeTest {
         EDGE.desk.input(1);
         run(2000, 1, 2, 3, 1);
         values(9);
+        // calls within functions: with a NAME in front what returns goes to that one, without one it goes nowhere
+        EDGE.program("fun f(a){return a;}fun g(p,q){f(5);q=f(6);p=p;}fun m(){var x=1;var y=2;g(3,4);}");
+        run(5, 16, 5, 5, 0);
+        values(1, 2, 3, 4);
+        run(7, 16, 7, 7, 0);
+        values(1, 2, 3, 6);
         EDGE.program("fun f(a){a=5;}fun m(){var x=9;f(x);x=x;}");
         run(3, 16, 3, 3, 0);
         values(9);
@@ -470,6 +563,11 @@ public final class RunEdgeTest {
         values(999);
         EDGE.due("drop()", EDGE.desk.drop(), 1000);
         EDGE.due("input() again", EDGE.desk.input(4), 1);
+        EDGE.refusedWhenFull("input() of a full desk", desk -> desk.input(5), desk -> {
+            for (int k = 3; k <= 1000; k++) {
+                EDGE.due("input() " + k, desk.input(-k), k);
+            }
+        });
         EDGE.promise(14, "One more input: how many there are.");
         EDGE.fresh();
         EDGE.due("input(" + MIN + ")", EDGE.desk.input(MIN), 1);
@@ -642,6 +740,9 @@ public final class RunEdgeTest {
     }
 
     private static void outsideOfNothing() {
+        EDGE.promise(20, "How often, in all runs (of all programs that there were), a run came to a point where its values are not within "
+            + "what is known by the analysis");
+        EDGE.promise(20, "or to a trap for which its point has no such alarm");
         EDGE.promise(20, "It is 0, ever.");
         EDGE.fresh();
         EDGE.due("outside() without a run", EDGE.desk.outside(), 0);

@@ -7,6 +7,9 @@ public final class TextEdgeTest {
     private static final String SUMS = "SUMS are none";
     private static final String DEEPER = "A BLOCK, SUM, COND";
     private static final String NAME_30 = "abcdefghijklmnopqrstuvwxyzABC9";
+    /** The tokens with which a SUM begins, and those that stand between its parts. */
+    private static final String SUM = "x 1 - ( any";
+    private static final String SIGNS = "+ - * / %";
     /** All forms of statements, with a blank between any two tokens. */
     private static final String ALL_FORMS = "fun f ( a , b ) { return a + b ; } fun m ( ) { var x ; var y = any ; var t [ 3 ] ; x = 1 ; "
         + "t [ x ] = y ; x = f ( x , 2 ) ; f ( any ( - 1 , 2 ) , - ( x ) ) ; if ( x < 1 ) { } if ( x <= 1 && y > 2 ) { x = 2 ; } "
@@ -23,6 +26,7 @@ public final class TextEdgeTest {
         greatNumbers();
         zeros();
         lettersBehindNumbers();
+        signs();
         longestTokens();
         tokensThatTheEndCuts();
         functions();
@@ -37,6 +41,11 @@ public final class TextEdgeTest {
         sixtyDeepBlocks();
         nothingDeeper();
         depthOfTheExample();
+        valuesThatWaitAtEachDepth();
+        functionsThatGoOn();
+        statementsThatGoOn();
+        sumsThatGoOn();
+        condsThatGoOn();
         faultAtATokenOfAnyDepth();
         faultAtTheEnd();
         faultAtABadByte();
@@ -206,6 +215,20 @@ public final class TextEdgeTest {
         EDGE.fault("fun m(){var x=@0x;}");
         EDGE.fault("fun m(){var x=@2147483647_;}");
         EDGE.fault("fun m(){if(1<@2while){}}");
+    }
+
+    private static void signs() {
+        EDGE.terms(TEXT, "and the SIGNS ( ) { } [ ] , ; = + - * / % < <= > >= == != && || !");
+        EDGE.right("fun f(a,b){return a;}fun m(){var t[2];var x=1+2-3*4/5%6;x=f(t[0],-x);assert(1<2&&1<=2||1>2||1>=2||1==2||![1!=2]);}");
+        String all = "(){}[],;=+-*/%<>!";
+        for (int b = 0; b < 256; b++) {
+            if (!isLetter(b) && !isDigit(b) && !isBlank(b) && all.indexOf(b) < 0) {
+                EDGE.faulty("fun m(){var x=1;x=x" + (char) b + "1;}", 19);
+                EDGE.faulty("fun m(){var x=1;if(x" + (char) b + "1){}}", 20);
+                EDGE.faulty("fun m()" + (char) b + "{}", 7);
+                EDGE.faulty("fun m(){}" + (char) b, 9);
+            }
+        }
     }
 
     private static void longestTokens() {
@@ -482,6 +505,148 @@ public final class TextEdgeTest {
         EDGE.right("fun m(){var x;var y;" + times("if(1<2){", 56) + "x = -(y);" + times("}", 57));
         EDGE.fault("fun m(){var x;var y;" + times("if(1<2){", 57) + "x = -(@y);" + times("}", 58));
         EDGE.fault("fun m(){var x;var y;" + times("if(1<2){", 58) + "x = -@(y);" + times("}", 59));
+    }
+
+    /** What waits for its second part at each depth is no more than there is room for. */
+    private static void valuesThatWaitAtEachDepth() {
+        EDGE.terms(DEEPER, "none may lie more than 60 deep");
+        EDGE.program("fun m(){var t[1];var x=" + times("1+2*(", 58) + "0" + times(")", 58) + ";x=x;}");
+        EDGE.due("alarms: it is more than any int", EDGE.desk.point(1, 2), 1);
+        EDGE.program("fun m(){var x=" + times("1+0*(", 58) + "5" + times(")", 58) + ";x=x;}");
+        EDGE.known(1, "x in 1..1");
+        EDGE.due("run(1)", EDGE.desk.run(1), 16);
+        EDGE.due("value(0)", EDGE.desk.value(0), 1);
+        EDGE.program("fun m(){var t[9];var x=" + times("1+0*t[", 58) + "5" + times("]", 58) + ";x=x;}");
+        EDGE.known(2, "x in 1..1, t[] in 0..0");
+        EDGE.due("run(2)", EDGE.desk.run(2), 16);
+        EDGE.due("value(0)", EDGE.desk.value(0), 1);
+        EDGE.program("fun m(){var x=any(0,9);assert(" + times("x<0||x<9&&[", 57) + "x<5" + times("]", 57) + ");x=x;}");
+        EDGE.known(2, "x in 0..4");
+        EDGE.due("alarms", EDGE.desk.point(1, 2), 8);
+        EDGE.due("run(2000)", EDGE.desk.run(2000), 0);
+        EDGE.program("fun m(){var x=any(0,9);assert(" + times("x<0||x<9&&!!", 28) + "x<5);x=x;}");
+        EDGE.known(2, "x in 0..4");
+        EDGE.program("fun m(){var x=any(0,9);assert(x<" + times("x*0+(", 57) + "5" + times(")", 57) + ");x=x;}");
+        EDGE.due("run(2000)", EDGE.desk.run(2000), 0);
+    }
+
+    /** Behind the beginning of a text: it goes on with those tokens, and with no others. */
+    private static void goesOn(String beginning, String tokens) {
+        String[] all = ("fun var if else while assert return any x 1 ( ) { } [ ] , ; = + - * / % < <= > >= == != && || !").split(" ");
+        for (String token : all) {
+            String text = beginning + " " + token;
+            if ((" " + tokens + " ").contains(" " + token + " ")) {
+                EDGE.faulty(text, text.length());
+            } else {
+                EDGE.faulty(text, beginning.length() + 1);
+            }
+        }
+    }
+
+    private static void functionsThatGoOn() {
+        EDGE.terms(FUNCTIONS, "A TEXT is one FUNCTION or more: fun NAME ( ) BLOCK, or fun NAME ( NAMES ) BLOCK, NAMES being NAMEs with , "
+            + "between.");
+        goesOn("", "fun");
+        goesOn("fun", "x");
+        goesOn("fun m", "(");
+        goesOn("fun m (", "x )");
+        goesOn("fun m ( )", "{");
+        goesOn("fun m ( a", ", )");
+        goesOn("fun m ( a ,", "x");
+        goesOn("fun m ( a , b", ", )");
+        goesOn("fun m ( a )", "{");
+        goesOn("fun f ( ) { } fun", "x");
+    }
+
+    private static void statementsThatGoOn() {
+        EDGE.terms(STATEMENTS, "var NAME ;      var NAME = SUM ;      var NAME [ NUMBER ] ;      NAME = SUM ;      NAME [ SUM ] = SUM ;      "
+            + "NAME = NAME ( SUMS ) ;      NAME ( SUMS ) ;      if ( COND ) BLOCK      if ( COND ) BLOCK else BLOCK      "
+            + "while ( COND ) BLOCK      assert ( COND ) ;      return SUM ;");
+        String statements = "var x if while assert return }";
+        goesOn("fun m ( ) { if ( 1 < 2 ) {", statements);
+        goesOn("fun m ( ) { while ( 1 < 2 ) { if ( 1 < 2 ) { }", statements + " else");
+        goesOn("fun m ( ) { if ( 1 < 2 ) { } else", "{");
+        goesOn("fun m ( ) { while ( 1 < 2 ) { if ( 1 < 2 ) { } else { }", statements);
+        goesOn("fun m ( ) { while ( 1 < 2 ) { while ( 1 < 2 ) { }", statements);
+        goesOn("fun m ( ) { while ( 1 < 2 ) { x = 1 ;", statements);
+        goesOn("fun m ( ) { var", "x");
+        goesOn("fun m ( ) { var y", "; = [");
+        goesOn("fun m ( ) { var y =", SUM);
+        goesOn("fun m ( ) { var y = z", SIGNS + " [ ;");
+        goesOn("fun m ( ) { var y [", "1");
+        goesOn("fun m ( ) { var y [ 2", "]");
+        goesOn("fun m ( ) { var y [ 2 ]", ";");
+        goesOn("fun m ( ) { y", "= [ (");
+        goesOn("fun m ( ) { y =", SUM);
+        goesOn("fun m ( ) { y = z", SIGNS + " [ ( ;");
+        goesOn("fun m ( ) { y = f (", SUM + " )");
+        goesOn("fun m ( ) { y = f ( )", ";");
+        goesOn("fun m ( ) { f (", SUM + " )");
+        goesOn("fun m ( ) { f ( 2 , 3 )", ";");
+        goesOn("fun m ( ) { t [", SUM);
+        goesOn("fun m ( ) { t [ 2", SIGNS + " ]");
+        goesOn("fun m ( ) { t [ 2 ]", "=");
+        goesOn("fun m ( ) { t [ 2 ] =", SUM);
+        goesOn("fun m ( ) { t [ 2 ] = f", SIGNS + " [ ;");
+        goesOn("fun m ( ) { return", SUM);
+        goesOn("fun m ( ) { return z", SIGNS + " [ ;");
+    }
+
+    private static void sumsThatGoOn() {
+        EDGE.terms(SUMS, "SUMS are none, or SUMs with , between. A SUM is TERMs with + or - between, from the left on; a TERM is FACTORs with "
+            + "*, / or % between, from the left on; a FACTOR is NUMBER, NAME, NAME [ SUM ], - FACTOR, ( SUM ), any, or any ( LIMIT , LIMIT ), "
+            + "a LIMIT being NUMBER or - NUMBER.");
+        goesOn("fun m ( ) { y = f ( z", SIGNS + " [ , )");
+        goesOn("fun m ( ) { y = f ( z ,", SUM);
+        goesOn("fun m ( ) { f ( 2", SIGNS + " , )");
+        goesOn("fun m ( ) { y = 2", SIGNS + " ;");
+        goesOn("fun m ( ) { y = 2 +", SUM);
+        goesOn("fun m ( ) { y = 2 -", SUM);
+        goesOn("fun m ( ) { y = 2 *", SUM);
+        goesOn("fun m ( ) { y = 2 /", SUM);
+        goesOn("fun m ( ) { y = 2 %", SUM);
+        goesOn("fun m ( ) { y = z [", SUM);
+        goesOn("fun m ( ) { y = z [ 2", SIGNS + " ]");
+        goesOn("fun m ( ) { y = z [ 2 ]", SIGNS + " ;");
+        goesOn("fun m ( ) { y = -", SUM);
+        goesOn("fun m ( ) { y = - z", SIGNS + " [ ;");
+        goesOn("fun m ( ) { y = (", SUM);
+        goesOn("fun m ( ) { y = ( z", SIGNS + " [ )");
+        goesOn("fun m ( ) { y = ( z )", SIGNS + " ;");
+        goesOn("fun m ( ) { y = any", SIGNS + " ( ;");
+        goesOn("fun m ( ) { y = any (", "1 -");
+        goesOn("fun m ( ) { y = any ( -", "1");
+        goesOn("fun m ( ) { y = any ( - 2", ",");
+        goesOn("fun m ( ) { y = any ( 2 ,", "1 -");
+        goesOn("fun m ( ) { y = any ( 2 , -", "1");
+        goesOn("fun m ( ) { y = any ( 2 , 3", ")");
+        goesOn("fun m ( ) { y = any ( 2 , 3 )", SIGNS + " ;");
+    }
+
+    private static void condsThatGoOn() {
+        EDGE.terms(SUMS, "A COND is BOTHs with || between, a BOTH is TESTs with && between, a TEST is ! TEST, [ COND ], or SUM RELATION SUM, a "
+            + "RELATION being one of < <= > >= == !=");
+        String test = SUM + " ! [";
+        String relations = "< <= > >= == !=";
+        for (String statement : new String[] {"if", "while", "assert"}) {
+            String cond = "fun m ( ) { " + statement;
+            goesOn(cond, "(");
+            goesOn(cond + " (", test);
+            goesOn(cond + " ( !", test);
+            goesOn(cond + " ( [", test);
+            goesOn(cond + " ( z", SIGNS + " [ " + relations);
+            goesOn(cond + " ( ( z", SIGNS + " [ )");
+            goesOn(cond + " ( 2", SIGNS + " " + relations);
+            for (String relation : relations.split(" ")) {
+                goesOn(cond + " ( 2 " + relation, SUM);
+            }
+            goesOn(cond + " ( 2 < 3", SIGNS + " && || )");
+            goesOn(cond + " ( [ 2 < 3", SIGNS + " && || ]");
+            goesOn(cond + " ( [ 2 < 3 ]", "&& || )");
+            goesOn(cond + " ( 2 < 3 &&", test);
+            goesOn(cond + " ( 2 < 3 ||", test);
+            goesOn(cond + " ( 2 < 3 )", statement.equals("assert") ? ";" : "{");
+        }
     }
 
     private static void faultAtATokenOfAnyDepth() {

@@ -11,10 +11,12 @@ public final class WhileEdgeTest {
         joinedRounds();
         roundsDownwards();
         asGreatAsTheyCanBe();
+        twelveNumbers();
         boundsThatStay();
         endsOfRanges();
         boundsThatAreToldAndNotTight();
         twoTries();
+        triesOfEachWhile();
         triesThatEnd();
         tryThatIsRefused();
         oneMoreRound();
@@ -51,6 +53,10 @@ public final class WhileEdgeTest {
         loop("while(x<1){x=1/0;}", 1 + 2 * 2, "x in 0..0", "nothing");
         loop("while(any<1){x=1/0;}", 2 + 2 * 2, "x in 0..0", "x in 0..0");
         loop("while(any<1){}", 2 + 2, "x in 0..0", "x in 0..0");
+        EDGE.program("fun m(){var x=any(0,5);while(any<1){x=any(0,5);}x=x;}");
+        EDGE.due("told(2): one var, two rounds with two statements, and one", EDGE.desk.told(2), 1 + 2 * 2 + 1);
+        EDGE.program("fun m(){var x;x=x+any(0,5);while(any<1){x=any(0,5);}x=x;}");
+        EDGE.due("told(2): two, two rounds with two statements, and one", EDGE.desk.told(2), 2 + 2 * 2 + 1);
     }
 
     private static void joinedRounds() {
@@ -100,6 +106,26 @@ public final class WhileEdgeTest {
         bound(2, 0, 1, 1, -1, 0);
     }
 
+    private static void twelveNumbers() {
+        EDGE.terms(WHILE, "those bounds that are told of H are made as great as they can be that are less than the tight ones of N");
+        StringBuilder text = new StringBuilder("fun m(){");
+        StringBuilder loop = new StringBuilder();
+        for (int k = 0; k < 12; k++) {
+            text.append("var n").append(k).append("=").append(k).append(";");
+            loop.append("if(any<1){n").append(k).append("=n").append(k).append(k % 2 == 0 ? "+1;}" : "-1;}");
+        }
+        EDGE.program(text + "while(any<1){" + loop + "}n0=n0;}");
+        for (int k = 0; k < 12; k++) {
+            boolean up = k % 2 == 0;
+            bound(12, k, 1, k, 1, up ? 2147483647L : k);
+            bound(12, k, -1, k, -1, up ? -k : 2147483648L);
+            int other = (k + 2) % 12;
+            bound(12, k, 1, other, 1, up ? 4294967294L : k + other);
+            bound(12, k, -1, other, -1, up ? -k - other : 4294967296L);
+        }
+        EDGE.due("inductive()", EDGE.desk.inductive(), -1);
+    }
+
     private static void boundsThatStay() {
         EDGE.terms(WHILE, "all others staying as they are told of H");
         EDGE.program("fun m(){var x;var y;while(any<1){x=x+1;y=y+1;}x=x;}");
@@ -109,12 +135,32 @@ public final class WhileEdgeTest {
         EDGE.program("fun m(){var x;var n=any(0,9);while(x<n){x=x+1;}x=x;}");
         EDGE.known(2, "x in 0..9, n in 0..9, x - n <= 0");
         EDGE.known(4, "x in 0..9, n in 0..9, x - n <= 0, -x + n <= 0");
+        // by x <= n the H that was made greater is tightly 0 .. 9 at once, so that N is the same as it, and nothing is tried
+        EDGE.due("told(2): two vars, five rounds with two statements, and one", EDGE.desk.told(2), 2 + 5 * 2 + 1);
+        EDGE.program("fun m(){var n=any(0,9);var x;while(x<n){x=x+1;}x=x;}");
+        EDGE.known(2, "n in 0..9, x in 0..9, -n + x <= 0");
+        EDGE.due("told(2): two vars, five rounds with two statements, and one", EDGE.desk.told(2), 2 + 5 * 2 + 1);
+        EDGE.program("fun m(){var w=5;var x;var y;var z;while(any<1){if(any<1){x=x+1;}if(any<1){y=y-1;}if(any<1){z=z+2;}}x=x;}");
+        EDGE.known(4, "w in 5..5, x in 0.." + MOST + ", y in " + LEAST + "..0, z in 0.." + MOST);
+        EDGE.program("fun m(){var x;var n=any(0,9);var y;while(any<1){if(y<n){y=y+1;}}x=x;}");
+        EDGE.known(3, "x in 0..0, n in 0..9, y in 0..9, -n + y <= 0");
+        EDGE.due("told(2): three vars, five rounds with three statements, and one", EDGE.desk.told(2), 3 + 5 * 3 + 1);
     }
 
     private static void endsOfRanges() {
         EDGE.terms(WHILE, "and its ranges' ends that N is not within likewise");
         EDGE.program("fun m(){var t[1];var u[2];while(any<1){t[0]=t[0]+1;u[0]=u[0]-1;}t[0]=0;}");
         EDGE.known(2, "t[] in 0.." + MOST + ", u[] in " + LEAST + "..0");
+        StringBuilder six = new StringBuilder("fun m(){");
+        StringBuilder loop = new StringBuilder();
+        StringBuilder line = new StringBuilder();
+        for (int a = 0; a < 6; a++) {
+            six.append("var t").append(a).append("[1];");
+            loop.append("t").append(a).append("[0]=t").append(a).append(a % 2 == 0 ? "[0]+1;" : "[0]-1;");
+            line.append(a == 0 ? "t" : ", t").append(a).append("[] in ").append(a % 2 == 0 ? "0.." + MOST : LEAST + "..0");
+        }
+        EDGE.program(six + "while(any<1){" + loop + "}t0[0]=0;}");
+        EDGE.known(6, line.toString());
         // N is [0, 1], [0, 2] in the first rounds, and the third one is within
         EDGE.program("fun m(){var t[2];while(any<1){if(t[0]<2){t[1]=t[0]%2+1;}}t[0]=0;}");
         EDGE.known(1, "t[] in 0..2");
@@ -155,6 +201,18 @@ public final class WhileEdgeTest {
         EDGE.program("fun m(){var x;var t[1];var u[1];while(x<10){u[0]=t[0];t[0]=x;x=x+1;}x=0;}");
         EDGE.known(3, "x in 0..10, t[] in 0..9, u[] in 0..9");
         EDGE.due("told(2): three vars, seven rounds with four statements, and one", EDGE.desk.told(2), 3 + 7 * 4 + 1);
+    }
+
+    private static void triesOfEachWhile() {
+        EDGE.terms(WHILE, "Then, up to two times");
+        String loop = "x=0;t[0]=0;u[0]=0;v[0]=0;while(x<10){v[0]=u[0];u[0]=t[0];t[0]=x;x=x+1;}";
+        EDGE.program("fun m(){var x;var t[1];var u[1];var v[1];" + loop + loop + "if(1<2){" + loop + "}x=0;}");
+        for (int p : new int[] {8, 17, 27}) {
+            EDGE.known(p, "x in 0..10, t[] in 0..9, u[] in 0..9, v[] in 0.." + MOST);
+        }
+        EDGE.due("told(2)", EDGE.desk.told(2), 4 + 3 * (4 + 8 * 5) + 2);
+        EDGE.program("fun m(){var k;while(any<1){var x;var t[1];var u[1];var v[1];" + loop + "}k=0;}");
+        EDGE.known(10, "k in 0..0, x in 0..10, t[] in 0..9, u[] in 0..9, v[] in 0.." + MOST);
     }
 
     private static void triesThatEnd() {

@@ -16,6 +16,7 @@ public final class WrongEdgeTest {
         onlyItsOwn();
         functionsThatAreNotCalled();
         asOftenAsCalled();
+        callsAsIfTheBlockStoodThere();
         namesThatMeanNothing();
         namesThatAnotherHas();
         arraysAndNumbers();
@@ -156,6 +157,18 @@ public final class WrongEdgeTest {
         EDGE.mistaken(10, "fun f(){@var x;}fun m(){f();" + numbers(12) + "f();}");
     }
 
+    private static void callsAsIfTheBlockStoodThere() {
+        EDGE.terms(WRONG, "A call is as if the function's BLOCK stood there, with the parameters as variables in front of it");
+        EDGE.program("fun g(c){var d=c;d=d;}fun f(a,b){g(b);}fun m(){var x=1;var t[2];f(2,3);x=x;}");
+        int[] numbers = {0, 1, 1, 3, 4, 5, 1, 0};
+        EDGE.due("points()", EDGE.desk.points(), numbers.length);
+        for (int p = 0; p < numbers.length; p++) {
+            EDGE.due("point(" + p + ", 3)", EDGE.desk.point(p, 3), numbers[p]);
+            EDGE.due("point(" + p + ", 4)", EDGE.desk.point(p, 4), p < 2 || p == 7 ? 0 : 1);
+        }
+        EDGE.known(5, "x in 1..1, a in 2..2, b in 3..3, c in 3..3, d in 3..3, t[] in 0..0");
+    }
+
     private static void namesThatMeanNothing() {
         EDGE.terms(WRONG, "1 a NAME that means nothing");
         EDGE.mistaken(1, "fun m(){@x=1;}");
@@ -183,7 +196,12 @@ public final class WrongEdgeTest {
         EDGE.mistaken(2, "fun m(){var x[2];var @x[2];}");
         EDGE.mistaken(2, "fun m(){var x;if(1<2){var x;var y;var @x;}}");
         EDGE.mistaken(2, "fun m(){var x;if(1<2){var x;}var @x;}");
+        EDGE.mistaken(2, "fun m(){var x;var y;var @y;}");
+        EDGE.mistaken(2, "fun m(){var x;var y;var z;var @y[2];}");
         EDGE.mistaken(2, "fun f(a){var @a;}fun m(){f(1);}");
+        EDGE.mistaken(2, "fun f(a,b){var @b;}fun m(){f(1,2);}");
+        EDGE.mistaken(2, "fun f(a,b){var c;var @c;}fun m(){f(1,2);}");
+        EDGE.mistaken(2, "fun f(a,b,@b){}fun m(){f(1,2,3);}");
         EDGE.mistaken(2, "fun f(a){var @a[2];}fun m(){f(1);}");
         EDGE.mistaken(2, "fun f(a,@a){}fun m(){f(1,2);}");
         EDGE.mistaken(2, "fun f(a,b,@a,b){}fun m(){f(1,2,3,4);}");
