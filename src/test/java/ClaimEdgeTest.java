@@ -6,6 +6,8 @@ public final class ClaimEdgeTest {
     private static final int MIN = Integer.MIN_VALUE;
     private static final int MAX = Integer.MAX_VALUE;
     private static final int[] FAR = {MIN, MIN + 1, MAX, 1 << 20};
+    /** As many arrays as there can be. */
+    private static final String SIX = "fun m(){var a[1];var b[2];var c[64];var d[1];var e[1];var f[2];a[0]=any;b[1]=any(3,4);f[0]=-7;f[0]=0;}";
 
     public static void main(String[] args) {
         boundsOfSlots();
@@ -160,8 +162,6 @@ public final class ClaimEdgeTest {
         EDGE.due("range(" + claims + ", " + p + ", " + a + ", false)", EDGE.desk.range(claims, p, a, false), least);
         EDGE.due("range(" + claims + ", " + p + ", " + a + ", true)", EDGE.desk.range(claims, p, a, true), greatest);
     }
-
-    private static final String SIX = "fun m(){var a[1];var b[2];var c[64];var d[1];var e[1];var f[2];a[0]=any;b[1]=any(3,4);f[0]=-7;f[0]=0;}";
 
     private static void rangesOfArrays() {
         EDGE.promise(8, "Likewise the range of an array: its least one, or its greatest one.");

@@ -289,7 +289,8 @@ public final class DeskEdgeTest {
     private static void nothingOfTheProgramBefore() {
         EDGE.promise(3, "The first n bytes are a text, all bytes are gone: 0 it is a program, which is analysed");
         String[] before = {"fun f(a){if(1<2){y=1;}}fun m(){var x=1;while(1<2){f(x);}}", "fun f(){var t[0];}fun m(){if(1<2){}else{f();}}",
-            "fun f(a){var t[2];a=a/0;}fun m(){var x;x=any+1;f(x);x=1/any;x=1/any;}", "fun f(){if(1<2){}if(1<2){}}fun m(){var t[2];var u[2];f();}", "fun m(){if(1<2){while(1<2){x", Edge.tooMuch()};
+            "fun f(a){var t[2];a=a/0;}fun m(){var x;x=any+1;f(x);x=1/any;x=1/any;}",
+            "fun f(){if(1<2){}if(1<2){}}fun m(){var t[2];var u[2];f();}", "fun m(){if(1<2){while(1<2){x", Edge.tooMuch()};
         for (String text : before) {
             EDGE.fresh();
             EDGE.desk.load(text);
@@ -416,11 +417,10 @@ public final class DeskEdgeTest {
         EDGE.program(text);
         int[] kinds = {1, 1, 1, 2, 3, 4, 8, 4, 8, 5, 6, 7, 2, 2, 0};
         int[] numbers = {0, 1, 2, 2, 2, 2, 3, 2, 3, 2, 2, 2, 2, 2, 0};
-        int[] alarms = {0, 0, 0, 0, 4, 0, 3, 0, 0, 0, 0, 0, 2, 0, 0};
+        // y is any, so t[y] can miss, y / y can divide by 0 and be no int; x + y can be no int, 1 / y can divide by 0
+        int[] alarms = {0, 0, 0, 0, 4, 0, 1 + 2, 0, 0, 0, 0, 1 + 2 + 8, 2, 0, 0};
         String[] firsts = {"var x", "var y", "var t", "x=1", "t[y]", "f(y)", "return", "x=f", "return", "if", "while", "assert",
             "x=1/0", "x=2", "\n"};
-        // y is any, so t[y] can miss, y / y can divide by 0 and be no int; x + y can be no int, 1 / y can divide by 0
-        alarms[11] = 1 + 2 + 8;
         for (int p = 0; p < kinds.length; p++) {
             EDGE.due("point(" + p + ", 0)", EDGE.desk.point(p, 0), kinds[p]);
             EDGE.due("point(" + p + ", 1)", EDGE.desk.point(p, 1), text.indexOf(firsts[p]));
